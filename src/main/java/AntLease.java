@@ -607,8 +607,8 @@ public final class AntLease {
 
         /** WORTH of a FOOD, if more GRAINS of it lay on THE FLOOR. */
         int worthWith(int food, int more) {
-            int grains = onFloor(food) + more;
-            switch (kind(food)) {
+            int grains = cell(FLOOR + food) + more;
+            switch (cell(KIND + food)) {
                 case SWEET: return 2 * grains;
                 case SALT: return grains / 2;
                 default: return grains;
@@ -694,12 +694,17 @@ public final class AntLease {
             return goodwill();
         }
 
-        int putUp(int food, int n) {
+        /** What is wrong with the FOOD or n, whatever is to be done with them; 0: nothing. */
+        private int refusal(int food, int n) {
             if (!hasFood(food)) {
                 return UNKNOWN;
             }
-            if (n < 1 || n > 9) {
-                return BAD;
+            return n < 1 || n > MOST_FIGURE ? BAD : 0;
+        }
+
+        int putUp(int food, int n) {
+            if (refusal(food, n) < 0) {
+                return refusal(food, n);
             }
             if (inLarder(food) + n > MOST_GRAINS) {
                 return FULL;
@@ -710,11 +715,8 @@ public final class AntLease {
         }
 
         int eatUp(int food, int n) {
-            if (!hasFood(food)) {
-                return UNKNOWN;
-            }
-            if (n < 1 || n > 9) {
-                return BAD;
+            if (refusal(food, n) < 0) {
+                return refusal(food, n);
             }
             if (inLarder(food) < n) {
                 return LATE;
@@ -724,11 +726,8 @@ public final class AntLease {
         }
 
         int leaveOut(int food, int n) {
-            if (!hasFood(food)) {
-                return UNKNOWN;
-            }
-            if (n < 1 || n > 9) {
-                return BAD;
+            if (refusal(food, n) < 0) {
+                return refusal(food, n);
             }
             int grains = n * grainsAtOnce(food);
             if (inLarder(food) < grains) {

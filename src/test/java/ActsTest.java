@@ -23,11 +23,12 @@ public final class ActsTest {
         x.put(0, 9);
         x.put(1, 9);
         x.leave(0, 3);
+        x.leave(1, 2);
         x.sprinkle(1);
         x.sprinkle(2);
         x.move(0, 6);
         CHECK.due("kept, two with powder", x.quarter(), 3);
-        CHECK.dueAbout("then", x, 2, 1, 4, 3, 1, 0, 0, 0, 0, 0b11111110, 1, 7, 0, 11);
+        CHECK.dueAbout("then", x, 2, 1, 4, 3, 1, 0, 0, 0, 0, 0b11111110, 1, 8, 0, 11);
         CHECK.dueAll("nothing lies, nothing was put up", 0, x.food(0, 2), x.food(0, 3), x.food(1, 2), x.food(1, 3));
         CHECK.due("larder stays", x.food(0, 1), 96);
         CHECK.due("place stays", x.thing(0, 0), 6);
@@ -197,21 +198,34 @@ public final class ActsTest {
         x.put(1, 4);
         x.undo();
         same("put", all(x), before);
+        // kept and gone on from, each begins with an empty row, and from another state
+        before = onward(x);
         x.eat(0, 4);
         x.undo();
         same("eat", all(x), before);
+        before = onward(x);
         x.leave(1, 4);
         x.undo();
         same("leave", all(x), before);
+        before = onward(x);
         x.move(0, 4);
         x.undo();
         same("move", all(x), before);
+        before = onward(x);
         x.sprinkle(3);
         x.undo();
         same("sprinkle", all(x), before);
+        before = onward(x);
         x.quarter();
         x.undo();
         same("quarter", all(x), before);
+    }
+
+    private static int[] onward(AntLease x) {
+        x.put(0, 1);
+        x.keep(0);
+        x.again(0);
+        return all(x);
     }
 
     private static void fullRow() {
@@ -230,6 +244,19 @@ public final class ActsTest {
         x.put(0, 3);
         CHECK.due("on again", x.undo(), 0);
         CHECK.due("and back", x.food(0, 1), 26);
+
+        AntLease none = Check.manor("L00F10");
+        for (int i = 0; i < 13; i++) {
+            none.put(0, 9);
+        }
+        for (int i = 0; i < 14; i++) {
+            none.eat(0, 9);
+        }
+        CHECK.due("the last grain", none.eat(0, 1), 0);
+        CHECK.due("short at none", none.quarter(), 0);
+        CHECK.due("acts that answer 0 are acts", none.undo(), 13);
+        CHECK.due("a grain", none.undo(), 12);
+        CHECK.due("is there again", none.food(0, 1), 1);
     }
 
     private static void refusedIsNoAct() {

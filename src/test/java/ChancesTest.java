@@ -9,6 +9,9 @@ public final class ChancesTest {
         strayRefusals();
         seed();
         years();
+        yearsPutUp();
+        yearsLeft();
+        yearsSprinkled();
         CHECK.end();
     }
 
@@ -72,6 +75,7 @@ public final class ChancesTest {
         strayOf("one thing, two asked", edge, 2, 3, 0, 1);
         AntLease into = Check.manor("L42T1");
         strayOf("into reach by four tenths", into, 1, 4, 2, 5);
+        strayOf("one place alone", Check.manor("L42T0"), 1, 10, 0, 1);
         AntLease last = Check.manor("L90T9T8");
         strayOf("at 9 it stays", last, 1, 10, 1, 1);
         strayOf("both at 9", last, 2, 5, 1, 2);
@@ -105,15 +109,75 @@ public final class ChancesTest {
         CHECK.due("a year on", x.seed(0), -6364136223846793005L + 1442695040888963407L);
     }
 
-    /** A seed after whose next step the chance is as told. */
-    private static long seedFor(int chance) {
-        for (long v = 0; v < 100000; v++) {
-            long next = v * 6364136223846793005L + 1442695040888963407L;
-            if ((next >>> 33) % 32 == chance) {
+    /** A seed by which the next chances are as told. */
+    private static long seedFor(int... chances) {
+        for (long v = 0; v < 1000000; v++) {
+            long x = v;
+            boolean as = true;
+            for (int i = 0; i < chances.length && as; i++) {
+                x = x * 6364136223846793005L + 1442695040888963407L;
+                as = (x >>> 33) % 32 == chances[i];
+            }
+            if (as) {
                 return v;
             }
         }
+        CHECK.due("a seed is found", 0, 1);
         return 0;
+    }
+
+    private static int yearsBy(AntLease x, int... chances) {
+        x.seed(seedFor(chances));
+        return x.years(chances.length);
+    }
+
+    private static void yearsPutUp() {
+        String[] texts = {"L53", "L53F00", "L53F00F00", "L53F00F00F00", "L53F00F00F00F00"};
+        for (int foods = 1; foods <= 4; foods++) {
+            AntLease x = Check.manor(texts[foods]);
+            AntLease bare = Check.manor(texts[foods]);
+            x.put(0, 1);
+            for (int chance = 0; chance < 8; chance++) {
+                boolean can = chance / 2 < foods;
+                CHECK.due("nine and one by " + chance, yearsBy(x, chance, 26), can ? 3 + 2 : 3 + 4);
+                CHECK.due("nine alone by " + chance, yearsBy(bare, chance, 31), 3 + 4);
+            }
+        }
+    }
+
+    private static void yearsLeft() {
+        String[] texts = {"L53F90F92F92F92", "L53F92F91F92F92", "L53F92F92F93F92", "L53F92F92F92F90"};
+        for (int food = 0; food < 4; food++) {
+            AntLease x = Check.manor(texts[food]);
+            x.put(0, 9);
+            x.put(0, 2);
+            for (int chance = 8; chance < 16; chance++) {
+                boolean kept = (chance - 8) / 2 == food;
+                CHECK.due("left by " + chance, yearsBy(x, chance, 27), kept ? 3 + 4 : 3 + 2);
+            }
+        }
+        AntLease salt = Check.manor("L53F92");
+        salt.put(0, 9);
+        salt.put(0, 1);
+        CHECK.due("one salt and one", yearsBy(salt, 8, 9, 28), 3 + 3 + 4);
+        AntLease hoard = Check.manor("L53F03F00");
+        hoard.put(0, 9);
+        hoard.put(1, 1);
+        CHECK.due("no whole ten", yearsBy(hoard, 8, 29), 3 + 2);
+        hoard.put(0, 1);
+        CHECK.due("a whole ten", yearsBy(hoard, 8, 29), 3 + 4);
+    }
+
+    private static void yearsSprinkled() {
+        AntLease x = Check.manor("L53");
+        for (int place = 0; place < 10; place++) {
+            x.sprinkle(place);
+            for (int chance = 16; chance < 26; chance++) {
+                CHECK.due("powder at " + place + " and by " + chance, yearsBy(x, chance, 30),
+                        chance - 16 == place ? 3 + 3 : 3 + 2);
+            }
+            x.undo();
+        }
     }
 
     private static void years() {

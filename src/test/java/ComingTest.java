@@ -106,6 +106,7 @@ public final class ComingTest {
         CHECK.due("goodwill after one", x.judge(2, 603L), AntLease.NONE);
         CHECK.due("goodwill as it is", x.judge(1, 602L), AntLease.NONE);
         CHECK.due("goodwill is less", x.judge(1, 603L), 0);
+        CHECK.due("a quarter that leaves no goodwill", new AntLease().judge(2, 400000L), AntLease.NONE);
         CHECK.due("put up", x.judge(1, 109L), AntLease.NONE);
         CHECK.due("put up none", x.judge(1, 100L), 0);
         CHECK.due("put up of an unknown food", x.judge(1, 121L), 0);
@@ -185,6 +186,14 @@ public final class ComingTest {
         shareOf("plain of four", x, 0, 13, 12);
         shareOf("sweet of four", x, 1, 17, 12);
         shareOf("salt of four", x, 2, 3, 4);
+        AntLease two = Check.manor("L00F90F90");
+        for (int i = 0; i < 4; i++) {
+            two.put(0, 9);
+        }
+        two.leave(0, 1);
+        two.leave(1, 3);
+        shareOf("one of two foods", two, 0, 1, 2);
+        shareOf("the other of two foods", two, 1, 5, 2);
         CHECK.dueAll("no such food", AntLease.UNKNOWN, x.share(4, true), x.share(-1, false),
                 x.share(Integer.MIN_VALUE, true), x.share(Integer.MAX_VALUE, false));
     }

@@ -8,6 +8,7 @@ public final class ManorTest {
         wipe();
         fault();
         manor();
+        allThereCanBe();
         about();
         dueAndShort();
         ants();
@@ -150,7 +151,29 @@ public final class ManorTest {
         Check.write(x, "0");
         CHECK.due("no foods, no things", x.manor(), 0);
         CHECK.dueAbout("bare", x, 0, 0, 0, 0, 0, 0, 0, 0, 0, 1, 0, 0, 1, 3);
-        CHECK.due("all there can be", Check.manor("L00F00F00F00F00T0T0T0T0T0").about(10), 31);
+    }
+
+    private static void allThereCanBe() {
+        AntLease x = Check.manor("L64F10F21F32F93T1T2T3T4T5");
+        for (int food = 0; food < 4; food++) {
+            x.put(food, food + 6);
+            x.leave(food, food + 1);
+        }
+        int[][] foods = {{0, 15, 1, 6, 1}, {1, 25, 2, 7, 4}, {2, 35, 3, 8, 1}, {3, 59, 40, 9, 40}};
+        for (int food = 0; food < 4; food++) {
+            for (int what = 0; what < 5; what++) {
+                CHECK.due("food " + food + ", " + what, x.food(food, what), foods[food][what]);
+            }
+        }
+        for (int thing = 0; thing < 5; thing++) {
+            CHECK.due("thing " + thing, x.thing(thing, 0), thing + 1);
+            x.move(thing, 9 - thing);
+        }
+        for (int thing = 0; thing < 5; thing++) {
+            CHECK.due("moved thing " + thing, x.thing(thing, 0), 9 - thing);
+        }
+        // the last thing was at its place already: that is no act
+        CHECK.dueAbout("all there can be", x, 4, 5, 6, 4, 0, 0, 3, 0, 0, 0b1111111100, 31, 12, 0, 25);
     }
 
     private static void about() {

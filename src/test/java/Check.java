@@ -42,6 +42,10 @@ final class Check {
         return x;
     }
 
+    int asked() {
+        return asked;
+    }
+
     void end() {
         if (wrong != 0) {
             System.out.println(wrong + " of " + asked + " answers are not as due");

@@ -4,6 +4,8 @@ import java.util.Random;
 public final class ModelTest {
     private static final int RUNS = 250;
     private static final int CALLS = 512;
+    /** A manor told anew: wiped, 25 bytes, its fault, made. */
+    private static final int MOST_AT_ONCE = 28;
     private static final int[] EXTREMES = {Integer.MIN_VALUE, Integer.MAX_VALUE, -1, 32, 256, 1000};
 
     private final Random random;
@@ -30,7 +32,7 @@ public final class ModelTest {
     }
 
     private boolean isRight(int run) {
-        while (calls < CALLS && !wrong) {
+        while (calls <= CALLS - MOST_AT_ONCE && !wrong) {
             String before = model.toString();
             int chance = random.nextInt(100);
             if (calls == 0 || chance == 0) {

@@ -36,8 +36,7 @@ final class Check {
         AntLease x = new AntLease();
         write(x, text);
         if (x.manor() < 0) {
-            System.out.println(text + " is no manor");
-            System.exit(1);
+            throw new IllegalStateException(text + " is no manor");
         }
         return x;
     }

@@ -1,11 +1,21 @@
+import java.io.IOException;
 import java.lang.reflect.Constructor;
 import java.lang.reflect.Field;
 import java.lang.reflect.Method;
 import java.lang.reflect.Modifier;
+import java.nio.file.Files;
+import java.nio.file.Path;
+import java.util.ArrayList;
 import java.util.Arrays;
+import java.util.List;
 import java.util.TreeSet;
+import java.util.regex.Matcher;
+import java.util.regex.Pattern;
 
-/** The public face: every constant, the constructor and every method of the document, and no other. */
+/**
+ * The public face: every constant, the constructor and every method of the document, and no other,
+ * in the document's order and under its headings.
+ */
 public final class FaceTest {
     private static final String[] FACE = {
         "int write(int)", "int wipe()", "int fault()", "int manor()", "int about(int)", "int food(int,int)",
@@ -16,7 +26,18 @@ public final class FaceTest {
         "int again(int)"
     };
 
-    public static void main(String[] args) {
+    private static final String[][] HEADINGS = {
+        {"the manor", "write", "wipe", "fault", "manor", "about", "food", "thing"},
+        {"acts", "quarter", "put", "eat", "leave", "move", "sprinkle", "undo"},
+        {"quarters to come", "later", "least", "judge", "share"},
+        {"said", "say", "unsay", "lines"},
+        {"rests, chances", "rests", "stray", "seed", "years"},
+        {"slots", "keep", "again"}
+    };
+    private static final Path DOC = Path.of("../shared/DOC.md");
+    private static final Path SOURCE = Path.of("src/main/java/AntLease.java");
+
+    public static void main(String[] args) throws IOException {
         TreeSet<String> wrong = new TreeSet<>();
         TreeSet<String> missing = new TreeSet<>(Arrays.asList(FACE));
         TreeSet<String> names = new TreeSet<>();
@@ -40,6 +61,8 @@ public final class FaceTest {
         }
         lookAtFields(wrong);
         lookAtConstructors(wrong);
+        lookAtHeadings(wrong);
+        lookAtDocument(wrong);
         if (!Modifier.isFinal(AntLease.class.getModifiers()) || !Modifier.isPublic(AntLease.class.getModifiers())) {
             wrong.add("the class is not public and final");
         }
@@ -92,6 +115,51 @@ public final class FaceTest {
         Constructor<?>[] all = AntLease.class.getDeclaredConstructors();
         if (all.length != 1 || all[0].getParameterCount() != 0 || !Modifier.isPublic(all[0].getModifiers())) {
             wrong.add("constructors: " + Arrays.toString(all));
+        }
+    }
+
+    /** In the source each call stands under the heading that the document has ahead of it. */
+    private static void lookAtHeadings(TreeSet<String> wrong) throws IOException {
+        List<String> due = new ArrayList<>();
+        for (String[] heading : HEADINGS) {
+            due.addAll(Arrays.asList(heading));
+        }
+        Pattern line = Pattern.compile("(?m)^    (?:// ---- (.*)|public \\w+ (\\w+)\\(.*)$");
+        List<String> got = new ArrayList<>();
+        Matcher found = line.matcher(Files.readString(SOURCE));
+        while (found.find()) {
+            got.add(found.group(1) == null ? found.group(2) : found.group(1));
+        }
+        // behind the calls there is a heading of the class's own
+        if (got.size() < due.size() || !got.subList(0, due.size()).equals(due)) {
+            wrong.add("calls under their headings: " + got);
+        }
+    }
+
+    /** What this test holds to is what the document says. */
+    private static void lookAtDocument(TreeSet<String> wrong) throws IOException {
+        if (!Files.isReadable(DOC)) {
+            System.out.println(DOC + " is not here: the face is not looked up");
+            return;
+        }
+        String doc = Files.readString(DOC);
+        List<String> face = new ArrayList<>();
+        Matcher method = Pattern.compile("(?m)^    public (int|long) (\\w+)\\((.*)\\);$").matcher(doc);
+        while (method.find()) {
+            String types = method.group(3).replaceAll(" \\w+(?=,|$)", "").replace(", ", ",");
+            face.add(method.group(1) + " " + method.group(2) + "(" + types + ")");
+        }
+        if (!face.equals(Arrays.asList(FACE))) {
+            wrong.add("the document's face is " + face);
+        }
+        if (!doc.contains("int UNKNOWN = -1, BAD = -2, LATE = -3, FULL = -4, NONE = -9;")) {
+            wrong.add("the document has other constants");
+        }
+        for (String[] heading : HEADINGS) {
+            String calls = String.join("`, `", Arrays.copyOfRange(heading, 1, heading.length));
+            if (!doc.contains("Ahead of the calls `" + calls + "` the interface says: ---- " + heading[0] + ".")) {
+                wrong.add("the document has no such heading: " + heading[0]);
+            }
         }
     }
 }
